@@ -1124,12 +1124,17 @@ public final class GrudgeYard {
         private static final int ANYBODY = -1;
         /** Two chalks that gainsay each other: neither a kind nor nobody will do. */
         private static final int NEVER = -2;
+        /** A key has three bits a road: how many of the wagons have been put there. */
+        private static final int KEY_BITS = 3, KEYS = 1 << (KEY_BITS * MOST_ROADS);
 
+        /** The rows for the rest, by key, for they hang on nothing else; NONE: not counted yet. */
+        private final int[] counted = new int[KEYS];
         private final int[] wanted = new int[MOST_ROADS * MOST_ROOM];
         /** The set of roads into which each wagon goes in rows that fit. */
         private final int[] roadSets = new int[MOST_WAGONS];
 
         private int search(Board board, Yard yard, Stand now, Notes chalk) {
+            Arrays.fill(counted, NONE);
             Arrays.fill(wanted, ANYBODY);
             Arrays.fill(roadSets, 0);
             for (int n = 0; n < chalk.count; n++) {
@@ -1146,7 +1151,7 @@ public final class GrudgeYard {
                     }
                 }
             }
-            return rowsFrom(board, 0, open);
+            return rowsFrom(board, 0, open, 0);
         }
 
         private void want(int r, int place, int kind) {
@@ -1170,20 +1175,27 @@ public final class GrudgeYard {
         }
 
         /** Rows for the i-th wagon and all behind it, open places still needing one: at most seven levels. */
-        private int rowsFrom(Board board, int i, int open) {
+        private int rowsFrom(Board board, int i, int open, int key) {
             if (open > board.waiting - i) {
                 return 0;
             }
-            if (i >= board.waiting || i >= MOST_WAGONS) {
+            if (i >= board.waiting || i >= MOST_WAGONS || key < 0 || key >= KEYS) {
                 return 1;
             }
+            if (counted[key] == NONE) {
+                counted[key] = countRows(board, i, open, key);
+            }
+            return counted[key];
+        }
+
+        private int countRows(Board board, int i, int open, int key) {
             int rows = 0;
             for (int r = 0; r < board.roads; r++) {
                 int kind = wantedAt(r, board.countOf(r));
                 if (board.hasRoom(r) && (kind == ANYBODY || kind == board.kindOf(i))) {
                     int lastBefore = board.lastKind(r);
                     board.put(i, r);
-                    int more = rowsFrom(board, i + 1, kind == ANYBODY ? open : open - 1);
+                    int more = rowsFrom(board, i + 1, kind == ANYBODY ? open : open - 1, key + (1 << (KEY_BITS * r)));
                     board.takeBack(r, lastBefore);
                     roadSets[i] |= more > 0 ? 1 << r : 0;
                     rows += more;

@@ -114,6 +114,7 @@ public final class PromisesTest {
         due("new: wagon(0, 0)", x.wagon(0, 0), UNKNOWN);
         due("new: at(-1, 0)", x.at(NONE, 0), NONE);
         due("new: at(0, 0)", x.at(0, 0), UNKNOWN);
+        due("new: enemies(0, 0)", x.enemies(0, 0), 0);
         due("new: plan(-2)", x.plan(-2), 0);
         due("new: fit(-1)", x.fit(NONE), 1);
         due("new: goBack(0)", x.goBack(0), NOT);
@@ -306,6 +307,7 @@ public final class PromisesTest {
             due("wagon(2, " + what + ")", x.wagon(2, what), want[what]);
         }
         x.cut(1, 0);
+        due("wagon(0, 3) in a road", x.wagon(0, 3), 0);
         due("wagon(2, 4) behind a cut", x.wagon(2, 4), 1);
         x.cut(2, 2);
         due("wagon(2, 3) in a road", x.wagon(2, 3), 2);
@@ -451,6 +453,20 @@ public final class PromisesTest {
         due("each can be undone", x.told(11), 6);
         due("the seed", x.seed(0), 1109335178);
         due("no wagons", of("y1;").drift(60), 0);
+        driftUntilFull();
+    }
+
+    /** No object gets so far in 512 calls; the refusal is told all the same. */
+    private static void driftUntilFull() {
+        GrudgeYard x = of(SEVEN);
+        for (int i = 0; i < 3000 && x.told(5) <= 90000; i++) {
+            x.drift(60);
+        }
+        int cuts = x.told(5);
+        due("above 90000 cuts", cuts > 90000 ? 1 : 0, 1);
+        due("drift(60) of so many", x.drift(60), FULL);
+        due("drift(61) of so many", x.drift(61), OUTSIDE);
+        due("the cuts stay", x.told(5), cuts);
     }
 
     private static void undo() {
@@ -650,6 +666,8 @@ public final class PromisesTest {
         due("a circus kicked: laws(17)", x.laws(17), OUTSIDE);
         x.couple(0, 4, false);
         due("it did not, at last", x.laws(NONE), 1);
+        x.couple(4, 0, true);
+        due("a circus kicked from ahead", x.laws(NONE), NONE);
     }
 
     private static void next() {
@@ -717,6 +735,9 @@ public final class PromisesTest {
         x.chalk(1, 0, 9);
         due("nobody, where one stands", x.fit(NONE), 0);
         GrudgeYard one = of("y2,7;w0 1 0;");
+        one.chalk(1, 0, 0);
+        due("sure of the head", one.fit(0), 1);
+        one.tear();
         one.chalk(0, 2, 9);
         due("nobody beyond the room", one.fit(NONE), 2);
         one.chalk(0, 2, 0);
