@@ -1,22 +1,5 @@
 /** For each promise its ordinary answers, the edges that the document names, and wrong inputs. */
-public final class PromisesTest {
-    private static final int NONE = GrudgeYard.NONE;
-    private static final int UNKNOWN = GrudgeYard.UNKNOWN;
-    private static final int OUTSIDE = GrudgeYard.OUTSIDE;
-    private static final int NOT = GrudgeYard.NOT;
-    private static final int FULL = GrudgeYard.FULL;
-    private static final int LOW = Integer.MIN_VALUE;
-    private static final int HIGH = Integer.MAX_VALUE;
-
-    /** Kinds 0 1 0 4 2 1; speeds 70 70 50 61 59 51; the train leaves out wagons 2 and 3. */
-    private static final String SIX =
-        "y3,2,4;w0 10 0;w1 20 5;w0 30 20;w4 1 0;w2 5 3;w1 9 9;x0 1;x1 0;x2 1;x0 4;t5,1,0,4;";
-    /** Seven wagons of kind 0 that all kick one another, in four long roads. */
-    private static final String SEVEN =
-        "y7,7,7,7;w0 1 0;w0 1 0;w0 1 0;w0 1 0;w0 1 0;w0 1 0;w0 1 0;x0 0;";
-
-    private static int wrong = 0;
-
+public final class PromisesTest extends YardTest {
     public static void main(String[] args) {
         newObject();
         feed();
@@ -52,56 +35,7 @@ public final class PromisesTest {
         seed();
         keep();
         goBack();
-        System.out.println(wrong == 0 ? "all promises hold" : wrong + " answers are not as due");
-        if (wrong != 0) {
-            System.exit(1);
-        }
-    }
-
-    private static void due(String call, int got, int want) {
-        if (got != want) {
-            wrong++;
-            System.out.println(call + " answered " + got + ", due is " + want);
-        }
-    }
-
-    private static void feedAll(GrudgeYard x, String text) {
-        for (int i = 0; i < text.length(); i++) {
-            x.feed(text.charAt(i));
-        }
-    }
-
-    private static GrudgeYard of(String text) {
-        GrudgeYard x = new GrudgeYard();
-        feedAll(x, text);
-        int answer = x.yard();
-        if (answer < 0) {
-            due("yard() of " + text, answer, 0);
-        }
-        return x;
-    }
-
-    private static void dueFault(String text, int number, int letter) {
-        GrudgeYard x = new GrudgeYard();
-        feedAll(x, text);
-        due("yard() of " + text, x.yard(), -10 - number);
-        due("fault() of " + text, x.fault(), letter);
-    }
-
-    private static void dueHump(String when, GrudgeYard x, int... wagons) {
-        for (int i = 0; i < wagons.length; i++) {
-            due(when + ": at(-1, " + i + ")", x.at(NONE, i), wagons[i]);
-        }
-        due(when + ": told(4)", x.told(4), wagons.length);
-        due(when + ": behind the hump", x.at(NONE, wagons.length), NONE);
-    }
-
-    private static void dueRoad(String when, GrudgeYard x, int r, int... wagons) {
-        for (int i = 0; i < wagons.length; i++) {
-            due(when + ": at(" + r + ", " + i + ")", x.at(r, i), wagons[i]);
-        }
-        due(when + ": road(" + r + ", 1)", x.road(r, 1), wagons.length);
-        due(when + ": behind road " + r, x.at(r, wagons.length), NONE);
+        end("all promises hold");
     }
 
     private static void newObject() {
