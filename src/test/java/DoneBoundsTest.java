@@ -470,6 +470,10 @@ public final class DoneBoundsTest extends YardTest {
         due("an empty road is drawn", one.drift(1), 1);
         dueRoad("nothing is pulled", one, 1, 0);
         due("it can be undone all the same", one.told(11), 2);
+        // From this seed on the next draw of two is 1.
+        one.seed(654583775);
+        due("the road that is drawn", one.drift(1), 1);
+        dueHump("it is pulled", one, 0);
     }
 
     private static void undoOfNone() {

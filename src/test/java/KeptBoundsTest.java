@@ -408,6 +408,12 @@ public final class KeptBoundsTest extends YardTest {
             due("section 2 of image " + image, stand(x).equals(kept));
             due("the seed of image " + image, x.seed(0), 31);
         }
+        GrudgeYard calm = of(SEVEN);
+        calm.keep(0);
+        calm.cut(2, 0);
+        due("a kick", calm.told(7), 1);
+        calm.goBack(0);
+        dueTold("no kick yet", calm, 4, 7, 0, 0, 7, 0, 0, NONE);
         GrudgeYard none = new GrudgeYard();
         due("keep(0) without a yard", none.keep(0), 1);
         none.seed(3);

@@ -39,6 +39,8 @@ public final class TextBoundsTest extends YardTest {
         emptyText();
         feedBounds();
         textIsEmptyThen();
+        endOfALaterText();
+        nothingOfEarlierTexts();
         faultOfTheLatest();
         end("the text's bounds hold");
     }
@@ -65,6 +67,9 @@ public final class TextBoundsTest extends YardTest {
         due("wagon(0, 0)", x.wagon(0, 0), UNKNOWN);
         due("at(-1, 0)", x.at(NONE, 0), NONE);
         due("fault()", x.fault(), NONE);
+        for (int pair = 0; pair < 25; pair++) {
+            due("enemies(" + pair / 5 + ", " + pair % 5 + ")", x.enemies(pair / 5, pair % 5), 0);
+        }
         due("seed(0)", x.seed(0), 0);
         due("undo()", x.undo(), NOT);
         due("goBack(0)", x.goBack(0), NOT);
@@ -473,6 +478,43 @@ public final class TextBoundsTest extends YardTest {
         due("the next letter is the first", x.feed('y'), 1);
         due("-10 less the number of its FAULT", x.yard(), -11);
         due("the road stays", x.road(0, 0), 2);
+    }
+
+    private static void endOfALaterText() {
+        says("THE TEXT (it is empty then, with a FAULT, too) becomes THE YARD");
+        String text = "y3,2;w4 10 20;x0 1;t0;";
+        for (int length = 1; length < text.length(); length++) {
+            GrudgeYard x = of(text);
+            feedAll(x, text.substring(0, length));
+            boolean whole = text.charAt(length - 1) == ';';
+            due("yard() of a start", x.yard(), !whole ? -11 : text.substring(0, length).indexOf('w') < 0 ? 0 : 1);
+            due("fault() of a start", x.fault(), whole ? NONE : length);
+        }
+    }
+
+    private static void nothingOfEarlierTexts() {
+        says("THE TEXT (it is empty then, with a FAULT, too) becomes THE YARD");
+        String whole = "y1;w0 1 0;w0 1 0;x0 0;t1,0;";
+        String[] earlier = {whole, whole + "z", "y1,1,1,1;" + WAGON + "x0 0;t0;t"};
+        for (String text : earlier) {
+            GrudgeYard x = of(whole);
+            for (int i = 0; i < 3; i++) {
+                feedAll(x, text);
+                x.yard();
+                feedAll(x, whole);
+                due("yard() behind " + text, x.yard(), 2);
+                dueTold("told again behind " + text, x, 1, 2, 2, 0, 2, 0, 0, NONE);
+            }
+            feedAll(x, "y2;");
+            due("roads alone behind " + text, x.yard(), 0);
+            dueTold("roads alone behind " + text, x, 1, 0, 0, 0, 0, 0, 0, NONE);
+            due("no grudge behind " + text, x.enemies(0, 0), 0);
+            feedAll(x, text);
+            x.yard();
+            due("yard() of no letter behind " + text, x.yard(), 0);
+            dueTold("no letter behind " + text, x, 0, 0, 0, 0, 0, 0, 0, NONE);
+            due("no grudge, no letter behind " + text, x.enemies(0, 0), 0);
+        }
     }
 
     private static void faultOfTheLatest() {

@@ -437,6 +437,8 @@ public final class TriedBoundsTest extends YardTest {
         says("when all WAGONS on the HUMP are let down into ROADS that have room");
         due("no roads, no wagons", new GrudgeYard().fit(NONE), 1);
         due("no roads: fit(0)", new GrudgeYard().fit(0), NONE);
+        due("four roads, seven wagons", of("y7,7,7,7;" + wagons(7)).fit(NONE), 16384);
+        due("four narrow roads", of("y1,2,3,4;" + wagons(7)).fit(NONE), narrowRows());
         due("just room", of("y1,2;" + wagons(3)).fit(NONE), 3);
         due("no room", of("y1,2;" + wagons(4)).fit(NONE), 0);
         due("no room: fit(0)", of("y1,2;" + wagons(4)).fit(0), NONE);
@@ -449,6 +451,19 @@ public final class TriedBoundsTest extends YardTest {
         due("none on the hump: fit(0)", x.fit(0), NONE);
         GrudgeYard kicks = of("y7,7;" + wagons(2) + "x0 0;");
         due("kicks are of no matter", kicks.fit(NONE), 4);
+    }
+
+    /** Rows of seven into roads with room for 1, 2, 3 and 4: each row of roads is tried. */
+    private static int narrowRows() {
+        int rows = 0;
+        for (int row = 0; row < 16384; row++) {
+            int[] there = new int[4];
+            for (int w = 0; w < 7; w++) {
+                there[row >> (2 * w) & 3]++;
+            }
+            rows += there[0] <= 1 && there[1] <= 2 && there[2] <= 3 && there[3] <= 4 ? 1 : 0;
+        }
+        return rows;
     }
 
     private static void fitByAllChalk() {
@@ -475,6 +490,7 @@ public final class TriedBoundsTest extends YardTest {
     private static void sureInAll() {
         says("SURE: the ROAD of the i-th WAGON from the head, if it is the same in all; NONE.");
         GrudgeYard x = of("y7,7,7;w0 1 0;w1 1 0;w2 1 0;");
+        due("without chalk", x.fit(0), NONE);
         x.chalk(2, 0, 0);
         x.chalk(2, 1, 2);
         due("how many", x.fit(NONE), 2);
