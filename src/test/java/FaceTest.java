@@ -121,20 +121,27 @@ public final class FaceTest {
         }
         due("no static block", !Pattern.compile("\\bstatic\\s*\\{").matcher(code).find());
         due("ASCII alone", text.chars().allMatch(letter -> letter == '\n' || letter >= 32 && letter < 127));
-        methodsAreShort(text.split("\n"));
+        methods(text.split("\n"));
     }
 
     /** A method starts at a line that ends in ') {' and begins with a visibility, and ends at its own indent. */
-    private static void methodsAreShort(String[] lines) {
+    private static void methods(String[] lines) {
         for (int i = 0; i < lines.length; i++) {
             if (lines[i].matches("\\s+(private|public) .*\\) \\{")) {
                 String end = lines[i].replaceAll("\\S.*", "") + "}";
+                boolean isConstructor = lines[i].matches("\\s+(private|public) \\w+\\(.*");
                 int last = i;
                 while (last < lines.length && !lines[last].equals(end)) {
+                    due("made in constructors alone: " + lines[last].trim(), isConstructor || !makes(lines[last]));
                     last++;
                 }
                 due("sixty lines at most: " + lines[i].trim(), last - i < 60);
             }
         }
+    }
+
+    /** All calls of a run live in one room, so that what a call makes would stay. */
+    private static boolean makes(String line) {
+        return line.replaceAll("//.*", "").matches(".*(\\bnew\\b|\\.clone\\(|copyOf|StringBuilder|\"|ArrayList).*");
     }
 }
